@@ -94,6 +94,8 @@ public final class PlaceDeskPromisesTest {
         Check.due("the 301st", many.row(J, 0), NONE);
         Check.yes("put beside 300", many.put(J));
         Check.due("the 301st as instance", many.instance(), NONE);
+        Check.due("the 300th is there", many.object(299, -1), J);
+        Check.due("the 301st is not", many.object(300, -1), NONE);
     }
 
     private static void put() {
@@ -538,6 +540,8 @@ public final class PlaceDeskPromisesTest {
         }
         Check.act(desk, 0, SET, 99, 0, 0);
         Check.due("the 21st", desk.mark(), NONE);
+        Check.due("changed(20)", desk.changed(20), NONE);
+        Check.due("back(20)", desk.back(20), NONE);
         for (int i = 19; i >= 0; i--) {
             Check.due("back(" + i + ")", desk.back(i), 1);
             Check.act(desk, 0, GET, 0, 0, i);
